@@ -820,7 +820,6 @@ public final class SleptBread {
 
         /** Walks along the best ways, at each LOAF by the first choice that loses nothing. */
         private void follow(Told told, State now) {
-            Arrays.fill(bedOf, NONE);
             int taken = now.awake;
             for (int l = 0; l < told.loaves; l++) {
                 fillWorths(told, now, l);

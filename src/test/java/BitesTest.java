@@ -82,6 +82,11 @@ final class BitesTest {
         b.bite(0);
         b.bite(1);
         whoIs("122448978 and 122448979", b, 3, 1, 499999, 500000);
+        SleptBread last = Check.street("d5 0;s1,9,9,9,3;");
+        for (int i = 0; i < 6; i++) {
+            last.bite(0);
+        }
+        whoIs("a part of 1", last, 1, 0, 1000000);
         SleptBread far = Check.street("d5 0;s1,9,9,9,9;");
         for (int i = 0; i < 5; i++) {
             far.bite(0);

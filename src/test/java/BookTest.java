@@ -121,6 +121,10 @@ final class BookTest {
         CHECK.due("keep", b.keep(1), 1);
         b.takeOff(0);
         b.eat(1);
+        b.lay(1, 0);
+        b.seed(0);
+        b.night(1);
+        CHECK.due("earned more", b.eat(1), 49);
         b.lay(2, 1);
         b.salt(0);
         b.wake(1, false);

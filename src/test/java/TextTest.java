@@ -186,15 +186,22 @@ final class TextTest {
         CHECK.due("loaf after a fault", b.loaf(0, 2), 40);
         CHECK.due("image after a fault", b.goBack(1), 1);
         CHECK.due("fault stays till the next street", b.fault(), 13);
-        Check.feed(b, "d2 0;");
-        b.street();
+        Check.feed(b, "d2 0;n1;");
+        CHECK.due("street behind a fault", b.street(), 0);
         CHECK.due("no fault any more", b.fault(), SleptBread.NONE);
+        CHECK.due("its nightmare", b.told(4), 1);
+        Check.feed(b, "d2 0;n1");
+        CHECK.due("letters of an older text do not count", b.street(), -11);
+        CHECK.due("the end is the end", b.fault(), 7);
     }
 
     /** Without a FAULT all is new but THE SEED. */
     private static void afterStreet() {
         SleptBread b = Check.street("d2 1;s1,0;s2,2;l0 0 40;n1;");
         b.wake(0, true);
+        b.lay(0, 1);
+        b.night(1);
+        CHECK.due("earned there", b.eat(0), 40);
         b.lay(0, 1);
         b.night(1);
         b.salt(0);

@@ -9,6 +9,7 @@ final class TriedTest {
 
     public static void main(String[] args) {
         beds();
+        bedsOfMany();
         bedsOfLikeWorth();
         bedsNow();
         feedings();
@@ -41,6 +42,20 @@ final class TriedTest {
         for (int strange : STRANGE) {
             CHECK.due("bed of a strange one", b.beds(strange), UNKNOWN);
         }
+    }
+
+    /** All seven loaves, all six sleepers; then a lesser street on the same object. */
+    private static void bedsOfMany() {
+        SleptBread b = Check.street("d3 0;s5,1,0;s1,4,2;s2,2,2;s0,3,6;s7,0,1;s1,1,8;"
+            + "l0 0 60;l1 1 50;l2 2 40;l3 0 30;l4 1 20;l5 2 10;l0 1 5;");
+        bedsAre("seven and six", b, 52500000 + 16666666 + 32000000 + 25000000 + 11428571 + 6666666,
+            4, 2, 5, 0, 1, 3, NONE);
+        b.wake(4, true);
+        b.wake(1, true);
+        bedsAre("seven and four", b, 20000000 + 16666666 + 32000000 + 25000000, 2, 3, 5, 0, NONE, NONE, NONE);
+        Check.feed(b, "d2 0;s1,0;s0,1;s1,1;l1 0 5;l0 1 6;");
+        b.street();
+        bedsAre("another street", b, 11000000, 0, 1);
     }
 
     private static void bedsOfLikeWorth() {
@@ -143,6 +158,7 @@ final class TriedTest {
         CHECK.due("nine already", Check.street("d2 5;s9,3;s2,1;l0 0 5;").settled(), 0);
         CHECK.due("one night", Check.street("d2 5;s4,3;s2,1;l0 0 5;").settled(), 1);
         CHECK.due("nine nights", Check.street("d2 1;s0,3;s2,1;l0 0 5;").settled(), 9);
+        CHECK.due("by sleeper 0", Check.street("d2 1;s2,1;s0,3;l1 0 5;").settled(), 9);
         SleptBread b = Check.street(PLAIN);
         b.wake(0, true);
         b.wake(1, true);
@@ -162,11 +178,8 @@ final class TriedTest {
         wakeIs("it passes by itself", b, 2, 0, 0);
         wakeIs("far on", b, 200, 0, 0);
         wakeIs("another nightmare", Check.street("d2 2;s1,2;s5,0;s3,2;l0 0 50;l2 1 50;n0;"), 1, NONE, NONE);
-        // Without 2 the bed of loaf 0 would be another's: BEDS stay as without those who are woken.
-        SleptBread as = Check.street("d2 1;s3,3;s0,5;s1,9;l0 1 50;n1;");
-        wakeIs("1 and 2 have it already", as, 3, NONE, NONE);
-        SleptBread own = Check.street("d3 1;s3,3,0;s0,1,2;s1,4,5;l0 1 50;n2;");
-        wakeIs("they have it", own, 0, NONE, NONE);
+        // If loaf 0 went to 0 when 1 is woken, 1 would do; but BEDS are as without those who are woken.
+        wakeIs("beds stay", Check.street("d2 1;s3,3;s2,1;s0,2;l2 0 10;l1 1 50;n1;"), 3, 1, 4);
         CHECK.due("n 201", b.awake(201, 0), OUTSIDE);
         CHECK.due("n -1", b.awake(-1, 0), OUTSIDE);
         CHECK.due("what 2", b.awake(0, 2), OUTSIDE);
@@ -187,9 +200,12 @@ final class TriedTest {
         b.wake(0, false);
         b.wake(3, true);
         wakeIs("3 is awake, no more", b, 1, 0, 0);
-        // 2 is fed four times over: both must be woken.
+        // Each loaf alone brings the nightmare now: both must be woken.
         SleptBread both = Check.street(text.replace("s3,0;", "s1,0;").replace("d2 2", "d2 3"));
         wakeIs("0 and 3", both, 1, 2, 9);
+        // 0 and 2 together would do, too: a lesser set, but of more.
+        SleptBread fewer = Check.street("d3 3;s1,3,0;s3,5,5;s0,0,1;s3,1,2;l3 2 30;l2 2 10;l3 2 30;l2 1 20;l0 0 20;n0;");
+        wakeIs("3 alone", fewer, 2, 1, 8);
     }
 
     private static void nothingChanges() {
