@@ -369,7 +369,8 @@ public final class SleptBread {
         int sets = 1 << told.sleepers;
         for (int many = 0; many <= told.sleepers; many++) {
             for (int set = 0; set < sets; set++) {
-                boolean fits = Integer.bitCount(set) == many && (set & now.awake) == 0;
+                // Nothing changes by waking one on whose pillow nothing lies: the fewest never have him.
+                boolean fits = Integer.bitCount(set) == many && (set & ~bedding.used) == 0;
                 if (fits && staysCalm(n, set)) {
                     return set;
                 }
@@ -419,8 +420,10 @@ public final class SleptBread {
 
         int all(int s) {
             int sum = 0;
-            for (int d = 0; d < MOST_DREAMS; d++) {
-                sum += of(s, d);
+            if (s >= 0 && s < MOST_SLEEPERS) {
+                for (int d = 0; d < MOST_DREAMS; d++) {
+                    sum += cells[s * MOST_DREAMS + d];
+                }
             }
             return sum;
         }
@@ -428,9 +431,12 @@ public final class SleptBread {
         /** LIKELIEST. */
         int top(int s) {
             int best = 0;
-            for (int d = 1; d < MOST_DREAMS; d++) {
-                if (of(s, d) > of(s, best)) {
-                    best = d;
+            if (s >= 0 && s < MOST_SLEEPERS) {
+                int row = s * MOST_DREAMS;
+                for (int d = 1; d < MOST_DREAMS; d++) {
+                    if (cells[row + d] > cells[row + best]) {
+                        best = d;
+                    }
                 }
             }
             return best;
@@ -533,11 +539,10 @@ public final class SleptBread {
             faultKind = 0;
             faultAt = NONE;
             nightmareTold = false;
-            for (int clause = 0; clause < MOST_LETTERS && faultKind == 0; clause++) {
+            skipBlanks();
+            for (int clause = 0; clause < MOST_LETTERS && at < length && faultKind == 0; clause++) {
+                readClause(letters[at]);
                 skipBlanks();
-                if (at < length) {
-                    readClause(letters[at]);
-                }
             }
             return faultKind;
         }
@@ -798,6 +803,7 @@ public final class SleptBread {
     /** BEDS, exactly: the best of LOAVES from one on, for every SET of SLEEPERS that is taken already. */
     private static final class Beds {
         int most;
+        int used;
         final int[] bedOf = new int[MOST_LOAVES];
         private final int[] worths = new int[MOST_SLEEPERS];
         private final int[] best = new int[(MOST_LOAVES + 1) * SLEEPER_SETS];
@@ -828,14 +834,15 @@ public final class SleptBread {
                     taken |= 1 << bedOf[l];
                 }
             }
+            used = taken & ~now.awake;
         }
 
         private int bestFrom(Told told, int l, int taken) {
-            int most = best[(l + 1) * SLEEPER_SETS + taken];
+            int greatest = best[(l + 1) * SLEEPER_SETS + taken];
             for (int s = 0; s < told.sleepers; s++) {
-                most = Math.max(most, bestOn(l, s, taken));
+                greatest = Math.max(greatest, bestOn(l, s, taken));
             }
-            return most;
+            return greatest;
         }
 
         private int firstBed(Told told, int l, int taken) {
