@@ -29,6 +29,8 @@ final class EdgeTextTest {
         textIsGone();
         faultOfTheLatest();
         numbersAsTheyCome();
+        allIsNew();
+        allIsAsItWas();
         CHECK.finish();
     }
 
@@ -467,6 +469,68 @@ final class EdgeTextTest {
             for (int what = 0; what < 3; what++) {
                 CHECK.due("loaf " + l + " row " + what, b.loaf(l, what), loaves[l][what]);
             }
+        }
+    }
+
+    /** Loaf 0 lies on 2, loaf 1 is slept on and salted, loaf 2 is fresh; much else is so. */
+    private static SleptBread busy() {
+        SleptBread b = Check.street("d2 1;s1,0;s0,1;s1,1;l0 1 40;l1 0 10;l2 0 8;n1;");
+        b.seed(815);
+        b.lay(0, 1);
+        b.night(1);
+        b.eat(0);
+        b.lay(1, 0);
+        b.night(1);
+        b.salt(1);
+        b.lay(0, 2);
+        b.wake(2, true);
+        b.keep(0);
+        b.keep(1);
+        b.bite(1);
+        b.write(0, 0, 5);
+        b.seed(4711);
+        return b;
+    }
+
+    /** 'all LOAVES FRESH, nobody AWAKE, NIGHTS, EARNED 0; no BITES, no BOOK; IMAGES are gone; THE SEED stays'. */
+    private static void allIsNew() {
+        SleptBread b = busy();
+        String text = "d2 2;s0,1;s1,0;s0,1;l0 0 1;l1 1 2;l2 0 3;";
+        Check.feed(b, text);
+        b.street();
+        SleptBread twin = new SleptBread();
+        twin.seed(4711);
+        Check.feed(twin, text);
+        twin.street();
+        for (int l = 0; l < 3; l++) {
+            CHECK.due("on no pillow", b.loaf(l, 3), NONE);
+            CHECK.due("fresh", b.loaf(l, 4), NONE);
+            CHECK.due("not salted", b.loaf(l, 5), 0);
+        }
+        CHECK.due("nights", b.told(6), 0);
+        CHECK.due("earned", b.told(7), 0);
+        CHECK.due("awake", b.told(8), 0);
+        CHECK.due("on pillows", b.told(9), 0);
+        CHECK.due("slept on", b.told(10), 0);
+        CHECK.due("salted", b.told(11), 0);
+        CHECK.due("bites", b.told(12), 0);
+        CHECK.due("entries", b.told(13), 0);
+        String seen = Seen.of(b);
+        CHECK.holds("as a new object's street: " + seen, seen.equals(Seen.of(twin)));
+    }
+
+    /** '-10 less the number of its FAULT (all else is as it was)'. */
+    private static void allIsAsItWas() {
+        String[] texts = {"x", "d3 4;s1,2,3;l0 2", "d3 4;n2;s1,2,33;", "d3 4;s1,2,3;l0 2 98;d", "d3 4;s1,2,3;s0,0,0;"};
+        int[] answers = {-11, -11, -12, -13, -14};
+        int[] places = {0, 16, 13, 20, 17};
+        for (int i = 0; i < texts.length; i++) {
+            SleptBread b = busy();
+            Check.feed(b, texts[i]);
+            CHECK.due("street of '" + texts[i] + "'", b.street(), answers[i]);
+            String seen = Seen.of(b);
+            String due = Seen.of(busy()).replace("fault=-1 ", "fault=" + places[i] + " ");
+            CHECK.holds("all else behind '" + texts[i] + "': " + seen + " was " + due, seen.equals(due));
         }
     }
 }

@@ -22,6 +22,7 @@ final class EdgeTriedTest {
         sleptOnIsLeftAlone();
         settledAtOnce();
         settledWhenNothingChanges();
+        settledLate();
         wakeNobody();
         wakeTheLast();
         wakeWithoutNights();
@@ -253,6 +254,21 @@ final class EdgeTriedTest {
         CHECK.due("he dreams 0", later.foretold(1, NONE, 3), 0);
         CHECK.due("anew", later.foretold(0, 0, 4), 3);
         CHECK.due("settled late", later.settled(), 6);
+    }
+
+    /** The latest that was found by a long search; 200 nights are never needed, so NONE is not seen. */
+    private static void settledLate() {
+        SleptBread b = Check.street("d5 1;s0,3,4,4,5;s0,7,9,8,6;s0,5,6,7,6;s0,7,4,3,5;s0,6,3,1,3;s3,0,2,0,0;"
+            + "l4 1 57;l5 3 88;l0 0 29;l3 4 10;l2 4 48;l0 1 58;l1 0 53;");
+        CHECK.due("settled", b.settled(), 51);
+        int last = 0;
+        int later = 0;
+        for (int i = 0; i < 30; i++) {
+            last += b.foretold(i / 5, i % 5, 51) - b.foretold(i / 5, i % 5, 50);
+            later += b.foretold(i / 5, i % 5, 200) - b.foretold(i / 5, i % 5, 51);
+        }
+        CHECK.holds("the last night changes", last > 0);
+        CHECK.due("later ones do not", later, 0);
     }
 
     private static void wakeIs(String name, SleptBread b, int n, int many, int set) {
