@@ -256,7 +256,7 @@ final class EdgeTriedTest {
         CHECK.due("settled late", later.settled(), 6);
     }
 
-    /** The latest that was found by a long search; 200 nights are never needed, so NONE is not seen. */
+    /** The latest that a search by chance found: none came near 200, so NONE is not shown here. */
     private static void settledLate() {
         SleptBread b = Check.street("d5 1;s0,3,4,4,5;s0,7,9,8,6;s0,5,6,7,6;s0,7,4,3,5;s0,6,3,1,3;s3,0,2,0,0;"
             + "l4 1 57;l5 3 88;l0 0 29;l3 4 10;l2 4 48;l0 1 58;l1 0 53;");
